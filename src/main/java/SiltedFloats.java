@@ -200,7 +200,7 @@ public final class SiltedFloats {
         Gauge gauge = now.gauges[station];
         Gauge other = now.gauges[neighbour];
         int ahead = gauge.firstHourOfGap(gap) - 1;
-        int behind = gauge.hourBehindGap(gap);
+        int behind = gauge.hourBehindGapFrom(ahead + 1);
         if (!other.hasReadings(ahead + phase, behind + phase)) {
             return NOT_POSSIBLE;
         }
@@ -334,7 +334,7 @@ public final class SiltedFloats {
         }
         Gauge gauge = now.gauges[station];
         int first = gauge.firstHourOfGap(gap);
-        int last = gauge.hourBehindGap(gap) - 1;
+        int last = gauge.hourBehindGapFrom(first) - 1;
         switch (what) {
             case 0: return first;
             case 1: return last;
@@ -352,7 +352,7 @@ public final class SiltedFloats {
         Gauge gauge = now.gauges[station];
         Gauge other = now.gauges[neighbour];
         int ahead = gauge.firstHourOfGap(gap) - 1;
-        int behind = gauge.hourBehindGap(gap);
+        int behind = gauge.hourBehindGapFrom(ahead + 1);
         if (!other.hasReadings(ahead + phase, behind + phase)) {
             return NONE;
         }
@@ -367,14 +367,14 @@ public final class SiltedFloats {
         Gauge gauge = now.gauges[station];
         Gauge other = now.gauges[neighbour];
         int ahead = gauge.firstHourOfGap(gap) - 1;
-        int behind = gauge.hourBehindGap(gap);
+        int behind = gauge.hourBehindGapFrom(ahead + 1);
         int best = NONE;
-        int least = Integer.MAX_VALUE;
+        int least = 0;
         for (int step = 0; step <= 2 * MOST_PHASE; step++) {
             int phase = phaseOfStep(step);
             if (other.hasReadings(ahead + phase, behind + phase)) {
                 int misfit = gauge.misfitAround(ahead, behind, other, phase);
-                if (misfit < least) {
+                if (best == NONE || misfit < least) {
                     least = misfit;
                     best = phase + PHASE_TOLD;
                 }
@@ -688,8 +688,8 @@ public final class SiltedFloats {
             return firstHourOfGap(gap) != NO_HOUR;
         }
 
-        int hourBehindGap(int gap) {
-            int hour = Math.max(firstHourOfGap(gap), 0);
+        int hourBehindGapFrom(int first) {
+            int hour = first;
             while (hour < MOST_HOURS && isInGap(hour)) {
                 hour++;
             }
@@ -697,7 +697,8 @@ public final class SiltedFloats {
         }
 
         boolean isInner(int gap) {
-            return hasReading(firstHourOfGap(gap) - 1) && hasReading(hourBehindGap(gap));
+            int first = firstHourOfGap(gap);
+            return hasReading(first - 1) && hasReading(hourBehindGapFrom(first));
         }
 
         int mendedWithin(int first, int last) {

@@ -214,6 +214,17 @@ public final class LanguageTest {
         }
 
         @Override
+        public Void visitMemberSelect(MemberSelectTree tree, Void nothing) {
+            Element element = trees.getElement(getCurrentPath());
+            if (element instanceof VariableElement && element.getEnclosingElement() instanceof TypeElement) {
+                String owner = element.getEnclosingElement().toString();
+                Checks.isTrue("rule 4: " + tree + place(tree),
+                        owner.startsWith("SiltedFloats") || tree.getIdentifier().contentEquals("length"));
+            }
+            return super.visitMemberSelect(tree, nothing);
+        }
+
+        @Override
         public Void visitVariable(VariableTree tree, Void nothing) {
             Element element = trees.getElement(getCurrentPath());
             if (element instanceof VariableElement) {

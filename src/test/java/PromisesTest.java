@@ -132,6 +132,10 @@ public final class PromisesTest {
             }
             due("1: high(" + s + ", 0)", x.high(s, 0), NONE);
         }
+        for (int w = 1; w < 3; w++) {
+            due("1: the wave " + w + " is so", x.setWave(w, 0, 24, 0), NONE);
+        }
+        due("1: the wave 0 is so", x.setWave(0, 1000, 12, 0), NONE);
         due("1: undo()", x.undo(), NONE);
         due("1: restore()", x.restore(), NONE);
         due("1: sea(6)", x.sea(6), 101000);
@@ -573,6 +577,31 @@ public final class PromisesTest {
         x.pass(5);
         due("14: one more", x.undo(), 0);
 
+        SiltedFloats all = new SiltedFloats();
+        String atFirst = toldButHistory(all);
+        for (int w = 0; w < 3; w++) {
+            all.setWave(w, 70 + w, 7 + w, 3);
+            all.undo();
+            due("14: the wave " + w + " is undone", toldButHistory(all), atFirst);
+        }
+        all.setStation(1, 9, 90, 9);
+        all.undo();
+        due("14: the station is undone", toldButHistory(all), atFirst);
+        for (int s = 0; s < 3; s++) {
+            all.setRate(s, true, 2);
+            all.setRate(s, false, 3);
+        }
+        all.pass(9);
+        String sunk = toldButHistory(all);
+        all.pass(2);
+        all.undo();
+        due("14: silt and sinking are undone", toldButHistory(all), sunk);
+        all.pass(2);
+        all.undo();
+        all.undo();
+        all.pass(9);
+        due("14: the same hours once more", toldButHistory(all), sunk);
+
         SiltedFloats y = flatWithGap();
         String before = toldButHistory(y);
         y.mend(0, 0, 1, 0);
@@ -619,9 +648,12 @@ public final class PromisesTest {
         x.mend(0, 0, 2, 1);
         String kept = toldButHistory(x);
         x.keep();
+        x.setRate(0, true, 1);
         x.pass(3);
+        x.mend(0, 0, 1, 0);
         x.forget(0);
         x.level(0);
+        x.turn(0, false);
         String later = toldButHistory(x);
         due("16: restore()", x.restore(), 10);
         due("16: the state", toldButHistory(x), kept);
@@ -766,6 +798,15 @@ public final class PromisesTest {
         due("21: of another gap", x.gap(0, 2, 3), 0);
         due("21: it is one gap still", x.gap(0, 1, 0), 5);
         due("21: an inner one still", x.gap(0, 1, 2), 1);
+        due("21: all gaps, the one from 0 on too", x.station(0, 10), 3);
+        SiltedFloats early = new SiltedFloats();
+        early.pass(1);
+        early.turn(0, false);
+        early.pass(1);
+        early.turn(0, true);
+        early.pass(1);
+        due("21: an inner one at the hour 1", early.gap(0, 0, 2), 1);
+        due("21: its first hour", early.gap(0, 0, 0), 1);
         due("21: no such gap", x.gap(0, 3, 0), UNKNOWN);
         due("21: no such gap", x.gap(0, -1, 0), UNKNOWN);
         due("21: no such gap", x.gap(1, 0, 0), UNKNOWN);
@@ -927,6 +968,11 @@ public final class PromisesTest {
         all.pass(120);
         due("24: the hour 0 is none", all.high(0, 0), 2);
         due("24: the last of all", all.high(0, 58), 118);
+        SiltedFloats soon = flat();
+        soon.setWave(0, 300, 2, 0);
+        soon.pass(3);
+        due("24: the hour 1", soon.high(0, 0), 1);
+        due("24: only that", soon.high(0, 1), NONE);
         due("24: no more", all.high(0, 59), NONE);
 
         SiltedFloats gap = new SiltedFloats();
