@@ -615,6 +615,12 @@ public final class PromisesTest {
         y.pass(3);
         y.level(1);
         due("14: what was undone is not noted", y.hour(1, 10, 3), Math.floorDiv(6 * 10, 13));
+        y.mend(0, 0, 1, 0);
+        String once = toldButHistory(y);
+        y.mend(0, 0, 1, 1);
+        Checks.isTrue("14: mending anew changes something", !once.equals(toldButHistory(y)));
+        y.undo();
+        due("14: what was mended before is there again", toldButHistory(y), once);
     }
 
     private static String toldButHistory(SiltedFloats x) {
