@@ -2,15 +2,25 @@
 final class Checks {
     private static int made = 0;
     private static int wrong = 0;
+    private static String about = "";
 
     private Checks() {
+    }
+
+    /** Tests what the document says; the sentence is shown ahead of all that is not as due. */
+    static void said(String sentence, Runnable test) {
+        about = "\"" + sentence + "\": ";
+        int before = made;
+        test.run();
+        isTrue("this has a check", made > before);
+        about = "";
     }
 
     static void due(String call, long got, long want) {
         made++;
         if (got != want) {
             wrong++;
-            System.out.println(call + " answered " + got + ", due is " + want);
+            System.out.println(about + call + " answered " + got + ", due is " + want);
         }
     }
 
@@ -18,7 +28,7 @@ final class Checks {
         made++;
         if (!got.equals(want)) {
             wrong++;
-            System.out.println(call + " answered " + got + ", due is " + want);
+            System.out.println(about + call + " answered " + got + ", due is " + want);
         }
     }
 
@@ -26,7 +36,7 @@ final class Checks {
         made++;
         if (!holds) {
             wrong++;
-            System.out.println("not so: " + what);
+            System.out.println(about + "not so: " + what);
         }
     }
 

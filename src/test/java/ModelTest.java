@@ -52,7 +52,7 @@ public final class ModelTest {
                 phases++;
             }
         }
-        Checks.due("run " + run, x.count(0), m.now.hour);
+        Checks.due("calls that differ in run " + run, Checks.wrongSoFar(), 0);
     }
 
     private static final String[] NAMES = {"setWave", "setStation", "setRate", "turn", "clean", "level", "pass",

@@ -51,61 +51,27 @@ public final class PromisesTest {
     // ---- set-ups
 
     /** The sea is at 0 at all hours. */
-    private static SiltedFloats flat() {
-        SiltedFloats x = new SiltedFloats();
+    private static Floats flat() {
+        Floats x = new Floats();
         x.setWave(0, 0, 2, 0);
         return x;
     }
 
     /** A flat sea; the station 0 has readings at 0 to 2 and 7 to 9 and an inner gap from 3 to 6. */
-    private static SiltedFloats flatWithGap() {
-        SiltedFloats x = flat();
+    private static Floats flatWithGap() {
+        Floats x = flat();
         x.setStation(1, 1, 100, 100);
         x.setRate(1, true, 2);
         makeGap(x);
         return x;
     }
 
-    private static void makeGap(SiltedFloats x) {
+    private static void makeGap(Floats x) {
         x.pass(3);
         x.turn(0, false);
         x.pass(4);
         x.turn(0, true);
         x.pass(3);
-    }
-
-    private static void type(SiltedFloats x, String text) {
-        x.clearText();
-        for (int i = 0; i < text.length(); i++) {
-            x.type(text.charAt(i));
-        }
-    }
-
-    private static int followed(SiltedFloats x, String text) {
-        type(x, text);
-        return x.follow();
-    }
-
-    /** All that an object tells of its state. */
-    private static String told(SiltedFloats x) {
-        StringBuilder all = new StringBuilder();
-        for (int w = 0; w <= 6; w++) {
-            all.append(x.count(w)).append(' ');
-        }
-        for (int h = -24; h <= 24; h++) {
-            all.append(x.sea(h)).append(' ');
-        }
-        for (int s = 0; s < 3; s++) {
-            for (int w = 0; w <= 12; w++) {
-                all.append(x.station(s, w)).append(' ');
-            }
-            for (int h = 0; h < x.count(0); h++) {
-                for (int w = 0; w <= 4; w++) {
-                    all.append(x.hour(s, h, w)).append(' ');
-                }
-            }
-        }
-        return all.toString();
     }
 
     // ---- the promises
@@ -119,7 +85,7 @@ public final class PromisesTest {
     }
 
     private static void promise1() {
-        SiltedFloats x = new SiltedFloats();
+        Floats x = new Floats();
         int[] counts = {0, 3, 0, 0, 0, 0, 0};
         for (int w = 0; w < counts.length; w++) {
             due("1: count(" + w + ")", x.count(w), counts[w]);
@@ -139,12 +105,12 @@ public final class PromisesTest {
         due("1: undo()", x.undo(), NONE);
         due("1: restore()", x.restore(), NONE);
         due("1: sea(6)", x.sea(6), 101000);
-        new SiltedFloats().pass(7);
+        new Floats().pass(7);
         due("1: count(0) when another one has passed hours", x.count(0), 0);
     }
 
     private static void promise2() {
-        SiltedFloats x = new SiltedFloats();
+        Floats x = new Floats();
         due("2: setWave(1, 500, 24, 6)", x.setWave(1, 500, 24, 6), 99000);
         due("2: sea(6) then", x.sea(6), 101500);
         due("2: setWave(0, 3000, 2, 1)", x.setWave(0, 3000, 2, 1), 103000);
@@ -180,7 +146,7 @@ public final class PromisesTest {
     }
 
     private static void promise3() {
-        SiltedFloats x = new SiltedFloats();
+        Floats x = new Floats();
         due("3: setStation(0, 3, 50, 7)", x.setStation(0, 3, 50, 7), 100007);
         due("3: its delay", x.station(0, 0), 3);
         due("3: its scale", x.station(0, 1), 50);
@@ -211,7 +177,7 @@ public final class PromisesTest {
     }
 
     private static void promise4() {
-        SiltedFloats x = new SiltedFloats();
+        Floats x = new Floats();
         due("4: the silting", x.setRate(0, false, 20), 0);
         due("4: the sinking", x.setRate(0, true, 3), 0);
         due("4: the silting is", x.station(0, 5), 20);
@@ -236,7 +202,7 @@ public final class PromisesTest {
     }
 
     private static void promise5() {
-        SiltedFloats x = new SiltedFloats();
+        Floats x = new Floats();
         due("5: off", x.turn(0, false), 2);
         due("5: it is off", x.station(0, 8), 0);
         due("5: off", x.turn(2, false), 1);
@@ -254,7 +220,7 @@ public final class PromisesTest {
     }
 
     private static void promise6() {
-        SiltedFloats x = new SiltedFloats();
+        Floats x = new Floats();
         due("6: no silt", x.clean(0), NONE);
         x.setRate(0, false, 2);
         x.setRate(1, false, 1);
@@ -271,7 +237,7 @@ public final class PromisesTest {
     }
 
     private static void promise7() {
-        SiltedFloats x = flat();
+        Floats x = flat();
         due("7: at the hour 0 it is noted", x.level(0), NONE);
         x.setRate(0, true, 3);
         x.pass(10);
@@ -302,7 +268,7 @@ public final class PromisesTest {
     }
 
     private static void promise8() {
-        SiltedFloats x = new SiltedFloats();
+        Floats x = new Floats();
         x.setRate(0, false, 1);
         x.setRate(0, true, 1);
         due("8: pass(3)", x.pass(3), 3);
@@ -320,9 +286,9 @@ public final class PromisesTest {
         due("8: pass(1)", x.pass(1), FULL);
         due("8: pass(120)", x.pass(120), FULL);
         due("8: BAD_VALUE ahead of FULL", x.pass(121), BAD_VALUE);
-        due("8: all at once", new SiltedFloats().pass(120), 120);
+        due("8: all at once", new Floats().pass(120), 120);
 
-        SiltedFloats falling = flat();
+        Floats falling = flat();
         falling.setWave(0, 100, 2, 1);
         falling.setRate(0, false, 1);
         falling.pass(2);
@@ -334,10 +300,10 @@ public final class PromisesTest {
     }
 
     private static void promise9() {
-        SiltedFloats x = new SiltedFloats();
+        Floats x = new Floats();
         x.setRate(1, false, 2);
         x.setRate(2, true, 3);
-        due("9: seven orders", followed(x, "x0;p3;o0;p17;l2;c1;x1"), 7);
+        due("9: seven orders", x.followed("x0;p3;o0;p17;l2;c1;x1"), 7);
         due("9: the hour", x.count(0), 20);
         due("9: readings of 0", x.station(0, 9), 17);
         due("9: the silt of 1", x.station(1, 4), 0);
@@ -346,28 +312,28 @@ public final class PromisesTest {
         due("9: 1 is off", x.station(1, 8), 0);
         due("9: one act", x.count(5), 3);
         due("9: the text stays", x.count(6), 21);
-        due("9: what would return NONE does nothing", followed(x, "x1;o0;c1;l2"), 4);
+        due("9: what would return NONE does nothing", x.followed("x1;o0;c1;l2"), 4);
         due("9: the notes of 2 then", x.station(2, 12), 2);
         due("9: but it is an act", x.count(5), 4);
-        due("9: the greatest number", followed(x, "p99"), 1);
+        due("9: the greatest number", x.followed("p99"), 1);
         due("9: the hour", x.count(0), 119);
-        String before = told(x);
-        type(x, "x2;p1;p1");
+        String before = x.told();
+        x.write("x2;p1;p1");
         due("9: too many hours", x.follow(), FULL);
         x.clearText();
-        type(x, "p99");
-        due("9: nothing is done", told(x), before);
-        due("9: exactly all hours", followed(x, "p1;x2"), 2);
+        x.write("p99");
+        due("9: nothing is done", x.told(), before);
+        due("9: exactly all hours", x.followed("p1;x2"), 2);
         due("9: the hour", x.count(0), 120);
-        due("9: FULL", followed(x, "p1"), FULL);
-        due("9: the fault ahead of FULL", followed(x, "p1;"), -103);
-        due("9: orders without hours", followed(x, "o2"), 1);
+        due("9: FULL", x.followed("p1"), FULL);
+        due("9: the fault ahead of FULL", x.followed("p1;"), -103);
+        due("9: orders without hours", x.followed("o2"), 1);
 
-        SiltedFloats y = new SiltedFloats();
-        due("9: exactly 120", followed(y, "p99;p9;p1;p11"), 4);
+        Floats y = new Floats();
+        due("9: exactly 120", y.followed("p99;p9;p1;p11"), 4);
         due("9: the hour", y.count(0), 120);
-        SiltedFloats z = new SiltedFloats();
-        due("9: 121", followed(z, "p99;p9;p2;p11"), FULL);
+        Floats z = new Floats();
+        due("9: 121", z.followed("p99;p9;p2;p11"), FULL);
         due("9: the hour", z.count(0), 0);
     }
 
@@ -383,24 +349,24 @@ public final class PromisesTest {
             1, 1, 1, 1, 1, 2, 2, 2, 0, 2, 4, 7, 1, 1, 1,
             2, 2, 1, 0, 2};
         for (int i = 0; i < texts.length; i++) {
-            SiltedFloats x = new SiltedFloats();
+            Floats x = new Floats();
             int want = faults[i] < 0 ? 1 : -100 - faults[i];
-            due("9: follow() of \"" + texts[i] + "\"", followed(x, texts[i]), want);
+            due("9: follow() of \"" + texts[i] + "\"", x.followed(texts[i]), want);
             due("9: the acts of \"" + texts[i] + "\"", x.count(5), faults[i] < 0 ? 1 : 0);
         }
         String full = "x0;x1;x2;o0;o1;o2;c0;c1;c2;l0;l1;l2;x0;x1;x2;o0;o1;o2;p1;p10";
-        SiltedFloats x = new SiltedFloats();
-        due("9: a text of 60 characters", followed(x, full), 20);
-        due("9: one of 60 that ends too early", followed(x, full.substring(0, 57) + "p"), -158);
-        due("9: one of 60 that ends with ;", followed(x, full.substring(0, 57) + "p1;"), -160);
-        SiltedFloats y = new SiltedFloats();
+        Floats x = new Floats();
+        due("9: a text of 60 characters", x.followed(full), 20);
+        due("9: one of 60 that ends too early", x.followed(full.substring(0, 57) + "p"), -158);
+        due("9: one of 60 that ends with ;", x.followed(full.substring(0, 57) + "p1;"), -160);
+        Floats y = new Floats();
         y.type('x');
         y.type((char) ('0' + 256));
         due("9: a character that is a digit in its low byte", y.follow(), -101);
     }
 
     private static void promise10() {
-        SiltedFloats x = flatWithGap();
+        Floats x = flatWithGap();
         due("10: mend(0, 0, 1, 0)", x.mend(0, 0, 1, 0), 4);
         int[] mended = {99999, 100000, 99999, 100000};
         for (int h = 3; h <= 6; h++) {
@@ -421,7 +387,7 @@ public final class PromisesTest {
         }
         due("10: readings of 0", x.station(0, 9), 6);
 
-        SiltedFloats two = new SiltedFloats();
+        Floats two = new Floats();
         two.pass(2);
         two.turn(0, false);
         two.pass(1);
@@ -437,7 +403,7 @@ public final class PromisesTest {
     }
 
     private static void promise10Stays() {
-        SiltedFloats x = flatWithGap();
+        Floats x = flatWithGap();
         x.mend(0, 0, 1, 0);
         x.setRate(1, true, 1);
         x.pass(30);
@@ -462,7 +428,7 @@ public final class PromisesTest {
     }
 
     private static void promise10Errors() {
-        SiltedFloats x = flatWithGap();
+        Floats x = flatWithGap();
         due("10: no such station", x.mend(-1, 0, 1, 0), UNKNOWN);
         due("10: no such station", x.mend(3, 0, 1, 0), UNKNOWN);
         due("10: no such gap", x.mend(0, 1, 1, 0), UNKNOWN);
@@ -493,7 +459,7 @@ public final class PromisesTest {
         due("10: by 0, which has readings from 7 to 15", x.mend(1, 0, 0, -4), 3);
         due("10: by 0, which is mended at 6", x.mend(1, 0, 0, -5), NOT_POSSIBLE);
 
-        SiltedFloats first = new SiltedFloats();
+        Floats first = new Floats();
         first.turn(0, false);
         first.pass(2);
         first.turn(0, true);
@@ -503,7 +469,7 @@ public final class PromisesTest {
     }
 
     private static void promise11() {
-        SiltedFloats x = flatWithGap();
+        Floats x = flatWithGap();
         due("11: nothing mended", x.forget(0), NONE);
         x.mend(0, 0, 1, 0);
         x.turn(0, false);
@@ -530,14 +496,14 @@ public final class PromisesTest {
     }
 
     private static void promise12() {
-        SiltedFloats x = new SiltedFloats();
+        Floats x = new Floats();
         for (int i = 1; i <= 60; i++) {
             due("12: type() the " + i + "th time", x.type((char) (i * 997)), i);
         }
         due("12: type() the 61st time", x.type('p'), FULL);
         due("12: the length then", x.count(6), 60);
         due("12: typing is no act", x.count(5), 0);
-        SiltedFloats y = new SiltedFloats();
+        Floats y = new Floats();
         y.type('x');
         y.type('1');
         y.follow();
@@ -547,63 +513,63 @@ public final class PromisesTest {
     }
 
     private static void promise13() {
-        SiltedFloats x = new SiltedFloats();
+        Floats x = new Floats();
         due("13: of an empty text", x.clearText(), 0);
-        type(x, "x0;p1");
+        x.write("x0;p1");
         due("13: clearText()", x.clearText(), 5);
         due("13: the length then", x.count(6), 0);
         due("13: the fault then", x.follow(), -100);
         due("13: it is no act", x.count(5), 0);
-        due("13: typed anew", followed(x, "x2"), 1);
+        due("13: typed anew", x.followed("x2"), 1);
         due("13: nothing of the old text", x.station(0, 8), 1);
     }
 
     private static void promise14() {
-        SiltedFloats x = new SiltedFloats();
+        Floats x = new Floats();
         due("14: an empty history", x.undo(), NONE);
         String[] states = new String[7];
         for (int i = 0; i < 6; i++) {
-            states[i] = toldButHistory(x);
+            states[i] = x.state();
             x.pass(i + 1);
         }
         due("14: at most 4 states", x.count(5), 4);
         for (int left = 3; left >= 0; left--) {
             due("14: undo()", x.undo(), left);
-            due("14: the state", toldButHistory(x), states[left + 2]);
+            due("14: the state", x.state(), states[left + 2]);
             due("14: the history", x.count(5), left);
         }
         due("14: the older ones are dropped", x.undo(), NONE);
-        due("14: it stays then", toldButHistory(x), states[2]);
+        due("14: it stays then", x.state(), states[2]);
         x.pass(5);
         due("14: one more", x.undo(), 0);
 
-        SiltedFloats all = new SiltedFloats();
-        String atFirst = toldButHistory(all);
+        Floats all = new Floats();
+        String atFirst = all.state();
         for (int w = 0; w < 3; w++) {
             all.setWave(w, 70 + w, 7 + w, 3);
             all.undo();
-            due("14: the wave " + w + " is undone", toldButHistory(all), atFirst);
+            due("14: the wave " + w + " is undone", all.state(), atFirst);
         }
         all.setStation(1, 9, 90, 9);
         all.undo();
-        due("14: the station is undone", toldButHistory(all), atFirst);
+        due("14: the station is undone", all.state(), atFirst);
         for (int s = 0; s < 3; s++) {
             all.setRate(s, true, 2);
             all.setRate(s, false, 3);
         }
         all.pass(9);
-        String sunk = toldButHistory(all);
+        String sunk = all.state();
         all.pass(2);
         all.undo();
-        due("14: silt and sinking are undone", toldButHistory(all), sunk);
+        due("14: silt and sinking are undone", all.state(), sunk);
         all.pass(2);
         all.undo();
         all.undo();
         all.pass(9);
-        due("14: the same hours once more", toldButHistory(all), sunk);
+        due("14: the same hours once more", all.state(), sunk);
 
-        SiltedFloats y = flatWithGap();
-        String before = toldButHistory(y);
+        Floats y = flatWithGap();
+        String before = y.state();
         y.mend(0, 0, 1, 0);
         y.setRate(1, false, 3);
         y.level(1);
@@ -611,30 +577,20 @@ public final class PromisesTest {
         for (int i = 0; i < 4; i++) {
             y.undo();
         }
-        due("14: mending, rates, notes and turns are undone", toldButHistory(y), before);
+        due("14: mending, rates, notes and turns are undone", y.state(), before);
         y.pass(3);
         y.level(1);
         due("14: what was undone is not noted", y.hour(1, 10, 3), Math.floorDiv(6 * 10, 13));
         y.mend(0, 0, 1, 0);
-        String once = toldButHistory(y);
+        String once = y.state();
         y.mend(0, 0, 1, 1);
-        Checks.isTrue("14: mending anew changes something", !once.equals(toldButHistory(y)));
+        Checks.isTrue("14: mending anew changes something", !once.equals(y.state()));
         y.undo();
-        due("14: what was mended before is there again", toldButHistory(y), once);
-    }
-
-    private static String toldButHistory(SiltedFloats x) {
-        StringBuilder all = new StringBuilder(told(x));
-        int at = 0;
-        for (int spaces = 0; spaces < 5; spaces++) {
-            at = all.indexOf(" ", at) + 1;
-        }
-        all.replace(at, all.indexOf(" ", at), "");
-        return all.toString();
+        due("14: what was mended before is there again", y.state(), once);
     }
 
     private static void promise15() {
-        SiltedFloats x = new SiltedFloats();
+        Floats x = new Floats();
         due("15: keep() at the hour 0", x.keep(), 0);
         due("15: it is no act", x.count(5), 0);
         x.pass(4);
@@ -646,13 +602,13 @@ public final class PromisesTest {
     }
 
     private static void promise16() {
-        SiltedFloats x = new SiltedFloats();
+        Floats x = new Floats();
         due("16: no snapshot", x.restore(), NONE);
         due("16: which is no act", x.count(5), 0);
         x.setWave(1, 700, 25, 3);
         makeGap(x);
         x.mend(0, 0, 2, 1);
-        String kept = toldButHistory(x);
+        String kept = x.state();
         x.keep();
         x.setRate(0, true, 1);
         x.pass(3);
@@ -660,26 +616,26 @@ public final class PromisesTest {
         x.forget(0);
         x.level(0);
         x.turn(0, false);
-        String later = toldButHistory(x);
+        String later = x.state();
         due("16: restore()", x.restore(), 10);
-        due("16: the state", toldButHistory(x), kept);
+        due("16: the state", x.state(), kept);
         due("16: it is an act", x.count(5), 4);
         due("16: undo()", x.undo(), 3);
-        due("16: the state ahead of it", toldButHistory(x), later);
+        due("16: the state ahead of it", x.state(), later);
         due("16: the snapshot stays", x.restore(), 10);
         due("16: also where nothing changes it is an act", x.restore(), 10);
         x.undo();
-        due("16: the state", toldButHistory(x), kept);
+        due("16: the state", x.state(), kept);
         x.pass(1);
         x.restore();
-        due("16: what happened behind it is not in the snapshot", toldButHistory(x), kept);
-        type(x, "x1");
+        due("16: what happened behind it is not in the snapshot", x.state(), kept);
+        x.write("x1");
         x.restore();
         due("16: the text is not in it", x.count(6), 2);
     }
 
     private static void promise17() {
-        SiltedFloats x = new SiltedFloats();
+        Floats x = new Floats();
         int[] heights = {-1000, -667, -334, 0, 333, 666, 1000, 667, 334, 0, -333, -666};
         for (int h = -24; h <= 200; h++) {
             due("17: sea(" + h + ")", x.sea(h), 100000 + heights[Math.floorMod(h, 12)]);
@@ -702,7 +658,7 @@ public final class PromisesTest {
     }
 
     private static void promise18() {
-        SiltedFloats x = new SiltedFloats();
+        Floats x = new Floats();
         due("18: outside(0, 0)", x.outside(0, 0), 99000);
         due("18: outside(1, 0)", x.outside(1, 0), 99334);
         due("18: outside(2, 0)", x.outside(2, 0), 99667);
@@ -719,7 +675,7 @@ public final class PromisesTest {
     }
 
     private static void promise19() {
-        SiltedFloats x = flat();
+        Floats x = flat();
         x.setStation(0, 4, 150, -77);
         x.setRate(0, false, 2);
         x.setRate(0, true, 3);
@@ -744,7 +700,7 @@ public final class PromisesTest {
     }
 
     private static void promise20() {
-        SiltedFloats x = flat();
+        Floats x = flat();
         x.setRate(0, true, 1);
         makeGap(x);
         x.level(0);
@@ -778,7 +734,7 @@ public final class PromisesTest {
     }
 
     private static void promise21() {
-        SiltedFloats x = new SiltedFloats();
+        Floats x = new Floats();
         x.turn(0, false);
         x.pass(2);
         x.turn(0, true);
@@ -805,7 +761,7 @@ public final class PromisesTest {
         due("21: it is one gap still", x.gap(0, 1, 0), 5);
         due("21: an inner one still", x.gap(0, 1, 2), 1);
         due("21: all gaps, the one from 0 on too", x.station(0, 10), 3);
-        SiltedFloats early = new SiltedFloats();
+        Floats early = new Floats();
         early.pass(1);
         early.turn(0, false);
         early.pass(1);
@@ -824,8 +780,8 @@ public final class PromisesTest {
     }
 
     /** A flat sea, a gap of 0 at 21 and 22, hours up to 45, and one step up at an hour. */
-    private static SiltedFloats withStepAt(int station, int hour) {
-        SiltedFloats x = flat();
+    private static Floats withStepAt(int station, int hour) {
+        Floats x = flat();
         for (int h = 0; h < 45; h++) {
             x.setRate(station, true, h + 1 == hour ? 1 : 0);
             x.turn(0, h != 21 && h != 22);
@@ -837,24 +793,24 @@ public final class PromisesTest {
     private static void promise22() {
         for (int h = 1; h < 45; h++) {
             boolean counted = h >= 9 && h <= 20 || h >= 24 && h <= 35;
-            SiltedFloats x = withStepAt(0, h);
+            Floats x = withStepAt(0, h);
             due("22: a step at " + h, x.misfit(0, 0, 1, 0), counted ? 1 : 0);
             due("22: a step at " + h + ", phase 2", x.misfit(0, 0, 1, 2), counted ? 1 : 0);
-            SiltedFloats y = withStepAt(1, h);
+            Floats y = withStepAt(1, h);
             due("22: a step of the neighbour at " + h, y.misfit(0, 0, 1, 0), counted ? 1 : 0);
             boolean later = h >= 11 && h <= 22 || h >= 26 && h <= 37;
             due("22: a step of the neighbour at " + h + ", phase 2", y.misfit(0, 0, 1, 2), later ? 1 : 0);
             boolean sooner = h >= 6 && h <= 17 || h >= 21 && h <= 32;
             due("22: a step of the neighbour at " + h + ", phase -3", y.misfit(0, 0, 1, -3), sooner ? 1 : 0);
         }
-        SiltedFloats waves = new SiltedFloats();
+        Floats waves = new Floats();
         waves.setWave(0, 60, 12, 0);
         makeGap(waves);
         due("22: the size of each: 9 and 8 by the phase 0, where they turn at 1, 2, 8 and 9",
                 waves.misfit(0, 0, 1, 0), 40);
         due("22: by the phase 1", waves.misfit(0, 0, 1, 1), 0);
 
-        SiltedFloats missing = flat();
+        Floats missing = flat();
         missing.setRate(0, true, 1);
         missing.pass(12);
         missing.turn(1, false);
@@ -874,7 +830,7 @@ public final class PromisesTest {
     }
 
     private static void promise22Errors() {
-        SiltedFloats x = flatWithGap();
+        Floats x = flatWithGap();
         due("22: no such station", x.misfit(-1, 0, 1, 0), UNKNOWN);
         due("22: no such station", x.misfit(3, 0, 1, 0), UNKNOWN);
         due("22: no such gap", x.misfit(0, 1, 1, 0), UNKNOWN);
@@ -896,8 +852,8 @@ public final class PromisesTest {
     }
 
     /** A flat sea, a gap of 0 at 21 and 22, and the station 1 without readings from one hour to another. */
-    private static SiltedFloats withoutNeighbour(int from, int to) {
-        SiltedFloats x = flat();
+    private static Floats withoutNeighbour(int from, int to) {
+        Floats x = flat();
         for (int h = 0; h < 45; h++) {
             x.turn(0, h != 21 && h != 22);
             x.turn(1, h < from || h > to);
@@ -917,7 +873,7 @@ public final class PromisesTest {
         due("23: 12", withoutNeighbour(0, 31).bestPhase(0, 0, 1), 112);
         due("23: not 13", withoutNeighbour(0, 32).bestPhase(0, 0, 1), NONE);
 
-        SiltedFloats x = new SiltedFloats();
+        Floats x = new Floats();
         x.setWave(1, 800, 31, 5);
         x.setStation(0, 9, 100, 0);
         x.setStation(1, 2, 100, 500);
@@ -931,7 +887,7 @@ public final class PromisesTest {
         due("23: its misfit", x.misfit(0, 0, 1, -7), 0);
         due("23: the other way", x.bestPhase(0, 0, 2), 103);
 
-        SiltedFloats y = flatWithGap();
+        Floats y = flatWithGap();
         due("23: no such station", y.bestPhase(-1, 0, 1), UNKNOWN);
         due("23: no such station", y.bestPhase(3, 0, 1), UNKNOWN);
         due("23: no such gap", y.bestPhase(0, 1, 1), UNKNOWN);
@@ -947,7 +903,7 @@ public final class PromisesTest {
     }
 
     private static void promise24() {
-        SiltedFloats x = new SiltedFloats();
+        Floats x = new Floats();
         x.pass(7);
         due("24: nothing is behind the last hour", x.high(0, 0), NONE);
         x.pass(1);
@@ -964,24 +920,24 @@ public final class PromisesTest {
         due("24: no such station", x.high(3, 0), UNKNOWN);
         due("24: UNKNOWN ahead of BAD_VALUE", x.high(3, -1), UNKNOWN);
 
-        SiltedFloats flat = flat();
+        Floats flat = flat();
         flat.setWave(0, 300, 3, 0);
         flat.pass(20);
         due("24: two that are equal are none", flat.high(0, 0), NONE);
 
-        SiltedFloats all = flat();
+        Floats all = flat();
         all.setWave(0, 300, 2, 1);
         all.pass(120);
         due("24: the hour 0 is none", all.high(0, 0), 2);
         due("24: the last of all", all.high(0, 58), 118);
-        SiltedFloats soon = flat();
+        Floats soon = flat();
         soon.setWave(0, 300, 2, 0);
         soon.pass(3);
         due("24: the hour 1", soon.high(0, 0), 1);
         due("24: only that", soon.high(0, 1), NONE);
         due("24: no more", all.high(0, 59), NONE);
 
-        SiltedFloats gap = new SiltedFloats();
+        Floats gap = new Floats();
         gap.pass(6);
         gap.turn(0, false);
         gap.pass(1);
@@ -998,7 +954,7 @@ public final class PromisesTest {
         due("24: the next one has no hour ahead of it", gap.station(0, 9), 14);
         due("24: so it waits for a later one", gap.high(0, 0), 18);
 
-        SiltedFloats sinking = flat();
+        Floats sinking = flat();
         sinking.setRate(0, true, 1);
         sinking.pass(1);
         sinking.setRate(0, true, 0);
@@ -1010,11 +966,11 @@ public final class PromisesTest {
     }
 
     private static void promise25() {
-        SiltedFloats x = flatWithGap();
+        Floats x = flatWithGap();
         x.turn(2, false);
         x.pass(2);
         x.mend(0, 0, 1, 0);
-        type(x, "x0;");
+        x.write("x0;");
         int[] counts = {12, 2, 8 + 12 + 10, 4 + 2, 4, 4, 3};
         for (int w = 0; w < counts.length; w++) {
             due("25: count(" + w + ")", x.count(w), counts[w]);
@@ -1027,28 +983,28 @@ public final class PromisesTest {
 
     private static void actsAreRecorded() {
         for (int act = 0; act < 12; act++) {
-            SiltedFloats x = new SiltedFloats();
+            Floats x = new Floats();
             x.setRate(2, false, 1);
             x.keep();
             if (act >= 7) {
-                followed(x, "p3;x0;p4;o0;p3");
+                x.followed("p3;x0;p4;o0;p3");
             }
             if (act == 8) {
                 x.mend(0, 0, 1, 0);
             }
-            type(x, "x2;p1");
-            String before = toldButHistory(x);
+            x.write("x2;p1");
+            String before = x.state();
             int states = x.count(5);
             int answer = doAct(x, act);
             Checks.isTrue("the act " + act + " answers " + answer, answer >= 0);
             due("the states behind the act " + act, x.count(5), states + 1);
-            Checks.isTrue("the act " + act + " changes something", !before.equals(toldButHistory(x)));
+            Checks.isTrue("the act " + act + " changes something", !before.equals(x.state()));
             due("undo() of the act " + act, x.undo(), states);
-            due("the state when the act " + act + " is undone", toldButHistory(x), before);
+            due("the state when the act " + act + " is undone", x.state(), before);
         }
     }
 
-    private static int doAct(SiltedFloats x, int act) {
+    private static int doAct(Floats x, int act) {
         switch (act) {
             case 0: return x.setWave(2, 5, 5, 5);
             case 1: return x.setStation(1, 5, 55, 5);
@@ -1066,11 +1022,11 @@ public final class PromisesTest {
     }
 
     private static void refusedCallsChangeNothing() {
-        SiltedFloats x = flatWithGap();
+        Floats x = flatWithGap();
         x.mend(0, 0, 1, 0);
         x.undo();
-        type(x, "p99;p99");
-        String before = told(x);
+        x.write("p99;p99");
+        String before = x.told();
         int[] answers = {x.setWave(0, 1, 2, 3), x.setWave(3, 1, 2, 3), x.setStation(0, 1, 100, 1),
             x.setStation(0, 1, 1, 1), x.setRate(0, true, 21), x.setRate(0, true, 0), x.turn(0, true),
             x.turn(3, true), x.clean(0), x.clean(3), x.level(3), x.pass(111), x.pass(0), x.follow(),
@@ -1078,11 +1034,11 @@ public final class PromisesTest {
         for (int i = 0; i < answers.length; i++) {
             Checks.isTrue("the call " + i + " is refused", answers[i] < 0);
         }
-        due("nothing is changed", told(x), before);
+        due("nothing is changed", x.told(), before);
     }
 
     private static void farArguments() {
-        SiltedFloats x = flatWithGap();
+        Floats x = flatWithGap();
         for (int f : FAR) {
             due("far: setWave", x.setWave(f, 0, 2, 0), UNKNOWN);
             due("far: setWave", x.setWave(0, f < 0 ? f : f * 4, 2, 0), BAD_VALUE);
